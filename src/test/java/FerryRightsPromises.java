@@ -61,6 +61,19 @@ public final class FerryRightsPromises {
         return x;
     }
 
+    /** 6 ferries of toll 1, and 12 people: 0 and its 11 children. */
+    private static FerryRights full() {
+        FerryRights x = new FerryRights();
+        for (int i = 0; i < 6; i++) {
+            x.addFerry(1);
+        }
+        x.addPerson();
+        for (int i = 1; i < 12; i++) {
+            x.addChild(0);
+        }
+        return x;
+    }
+
     private static FerryRights crowd(int people) {
         FerryRights x = new FerryRights();
         x.addFerry(3);
@@ -328,6 +341,12 @@ public final class FerryRightsPromises {
             refused("carry(0, far, 1)", PLACE, x, () -> x.carry(0, far, 1));
             refused("carry(0, 0, far)", VALUE, x, () -> x.carry(0, 0, far));
         }
+        FerryRights y = full();
+        y.grant(5, 3, 11, 32);
+        y.grant(5, 3, 0, 16);
+        due("carry(5, 23, 8) of a full river", y.carry(5, 23, 8), 2);
+        due("coins(11)", y.coins(11), 4);
+        due("coins(0)", y.coins(0), 2);
     }
 
     private static void die() {
@@ -371,6 +390,7 @@ public final class FerryRightsPromises {
         due("crownCoins()", x.crownCoins(), 9999);
         due("living()", x.living(), 1);
         dieOfManyHeirs();
+        dieInFullRiver();
     }
 
     private static void dieOfManyHeirs() {
@@ -388,6 +408,26 @@ public final class FerryRightsPromises {
         for (int i = 0; i < want.length; i++) {
             due("shares(0, 0, " + i + ")", x.shares(0, 0, i), want[i]);
         }
+    }
+
+    private static void dieInFullRiver() {
+        FerryRights x = full();
+        x.grant(5, 3, 0, 64);
+        x.grant(5, 0, 11, 7);
+        x.pay(0, 25);
+        due("die(0) in a full river", x.die(0), 11);
+        int[] shares = {0, 32, 4, 4, 3, 3, 3, 3, 3, 3, 3, 3};
+        int[] coins = {0, 13, 2, 2, 1, 1, 1, 1, 1, 1, 1, 1};
+        for (int i = 0; i < 12; i++) {
+            due("shares(5, 3, " + i + ")", x.shares(5, 3, i), shares[i]);
+            due("coins(" + i + ")", x.coins(i), coins[i]);
+        }
+        for (int i = 1; i < 12; i++) {
+            due("die(" + i + ")", x.die(i), 11 - i);
+        }
+        due("crownShares(5, 3)", x.crownShares(5, 3), 64);
+        due("crownShares(5, 0)", x.crownShares(5, 0), 64);
+        due("crownCoins()", x.crownCoins(), 25);
     }
 
     private static void ferries() {
@@ -456,6 +496,10 @@ public final class FerryRightsPromises {
             refused("crownShares(far, 0)", PLACE, x, () -> x.crownShares(far, 0));
             refused("crownShares(0, far)", PLACE, x, () -> x.crownShares(0, far));
         }
+        FerryRights y = full();
+        y.grant(5, 3, 0, 1);
+        y.grant(5, 3, 11, 2);
+        due("crownShares(5, 3) of a full river", y.crownShares(5, 3), 61);
     }
 
     private static void owners() {
@@ -474,6 +518,10 @@ public final class FerryRightsPromises {
             refused("owners(far, 0)", PLACE, x, () -> x.owners(far, 0));
             refused("owners(0, far)", PLACE, x, () -> x.owners(0, far));
         }
+        FerryRights y = full();
+        y.grant(5, 3, 0, 1);
+        y.grant(5, 3, 11, 2);
+        due("owners(5, 3) of a full river", y.owners(5, 3), 2);
     }
 
     private static void holder() {
@@ -494,6 +542,12 @@ public final class FerryRightsPromises {
             refused("holder(far, 0)", PLACE, x, () -> x.holder(far, 0));
             refused("holder(0, far)", PLACE, x, () -> x.holder(0, far));
         }
+        FerryRights y = full();
+        y.grant(5, 3, 0, 2);
+        y.grant(5, 3, 11, 2);
+        due("holder(5, 3) of a full river", y.holder(5, 3), 0);
+        y.grant(5, 3, 11, 1);
+        due("holder(5, 3) of a full river", y.holder(5, 3), 11);
     }
 
     private static FerryRights withMaster() {
@@ -517,6 +571,15 @@ public final class FerryRightsPromises {
         for (int far : FAR) {
             refused("master(far)", PLACE, x, () -> x.master(far));
         }
+        FerryRights y = full();
+        refused("master(5) of a full river", STATE, y, () -> y.master(5));
+        for (int watch = 1; watch < 4; watch++) {
+            y.grant(5, watch, 0, 43);
+            y.grant(4, watch, 11, 43);
+        }
+        due("master(5) of a full river", y.master(5), 0);
+        due("master(4) of a full river", y.master(4), 11);
+        refused("master(3) of a full river", STATE, y, () -> y.master(3));
     }
 
     private static void hasMaster() {
@@ -529,6 +592,15 @@ public final class FerryRightsPromises {
         for (int far : FAR) {
             refused("hasMaster(far)", PLACE, x, () -> asNumber(x.hasMaster(far)));
         }
+        FerryRights y = full();
+        due("hasMaster(5) of a full river", y.hasMaster(5), false);
+        for (int watch = 1; watch < 4; watch++) {
+            y.grant(5, watch, 0, 43);
+            y.grant(4, watch, 11, 43);
+        }
+        due("hasMaster(5) of a full river", y.hasMaster(5), true);
+        due("hasMaster(4) of a full river", y.hasMaster(4), true);
+        due("hasMaster(3) of a full river", y.hasMaster(3), false);
     }
 
     private static void shareValue() {
@@ -575,6 +647,7 @@ public final class FerryRightsPromises {
         due("living()", x.living(), 3);
         x.addPerson();
         due("living()", x.living(), 4);
+        due("living() of a full river", full().living(), 12);
     }
 
     private static void isAlive() {
@@ -634,6 +707,10 @@ public final class FerryRightsPromises {
         for (int far : FAR) {
             refused("allShares(far)", PLACE, x, () -> x.allShares(far));
         }
+        FerryRights y = full();
+        y.grant(5, 3, 11, 2);
+        due("allShares(11) of a full river", y.allShares(11), 2);
+        due("allShares(10) of a full river", y.allShares(10), 0);
     }
 
     private static void hasParent() {
@@ -697,6 +774,8 @@ public final class FerryRightsPromises {
         for (int far : FAR) {
             refused("heirs(far)", PLACE, x, () -> x.heirs(far));
         }
+        due("heirs(0) of a full river", full().heirs(0), 11);
+        due("heirs(11) of a full river", full().heirs(11), 10);
     }
 
     private static void heir() {
@@ -717,6 +796,9 @@ public final class FerryRightsPromises {
             refused("heir(far, 0)", PLACE, x, () -> x.heir(far, 0));
             refused("heir(0, far)", PLACE, x, () -> x.heir(0, far));
         }
+        FerryRights y = full();
+        due("heir(0, 10) of a full river", y.heir(0, 10), 11);
+        refused("heir(0, 11) of a full river", PLACE, y, () -> y.heir(0, 11));
     }
 
     private static void crownCoins() {
@@ -790,6 +872,14 @@ public final class FerryRightsPromises {
             refused("canBuy(1, 0, far, 1)", PLACE, x, () -> asNumber(x.canBuy(1, 0, far, 1)));
             refused("canBuy(1, 0, 0, far)", PLACE, x, () -> asNumber(x.canBuy(1, 0, 0, far)));
         }
+        FerryRights y = full();
+        y.grant(5, 2, 11, 1);
+        y.grant(5, 3, 11, 1);
+        y.pay(10, 2);
+        due("canBuy(10, 11, 5, 3) of a full river", y.canBuy(10, 11, 5, 3), true);
+        y.grant(5, 3, 0, 1);
+        y.pay(0, 2);
+        due("canBuy(10, 11, 5, 3), the first one having the price", y.canBuy(10, 11, 5, 3), false);
     }
 
     private static void inheritance() {
@@ -871,6 +961,9 @@ public final class FerryRightsPromises {
         refused("richest(), all being dead", STATE, x, x::richest);
         FerryRights empty = new FerryRights();
         refused("richest() without people", STATE, empty, empty::richest);
+        FerryRights y = full();
+        y.pay(11, 1);
+        due("richest() of a full river", y.richest(), 11);
     }
 
     private static void meanCoins() {
@@ -888,6 +981,9 @@ public final class FerryRightsPromises {
         x.die(0);
         x.die(2);
         due("meanCoins(), all being dead", x.meanCoins(), 0);
+        FerryRights y = full();
+        y.pay(11, 6);
+        due("meanCoins() of a full river", y.meanCoins(), 0.5);
     }
 
     private static void digest() {
